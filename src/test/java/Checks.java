@@ -1,5 +1,13 @@
 /** What the tests share: it prints every wrong answer and ends with exit code 1 if there was one. */
 final class Checks {
+    static final int MIN = Integer.MIN_VALUE;
+    static final int MAX = Integer.MAX_VALUE;
+    static final int END = 1000000;
+    static final Class<IllegalArgumentException> ILLEGAL = IllegalArgumentException.class;
+    static final Class<UnsupportedOperationException> FULL = UnsupportedOperationException.class;
+    static final Class<IndexOutOfBoundsException> NO_SUCH = IndexOutOfBoundsException.class;
+    static final Class<java.util.NoSuchElementException> NO_VALUE = java.util.NoSuchElementException.class;
+
     interface Call {
         Object run();
     }
@@ -17,23 +25,32 @@ final class Checks {
         }
     }
 
+    void due(String what, Object want, Call call) {
+        due(what, want, outcome(call));
+    }
+
     /** The exception's very class counts: a class below it, as the machine throws them, is wrong. */
     void dueThrow(String what, Class<? extends Exception> want, Call call) {
-        due(what, "throws." + want.getSimpleName(), outcome(call));
+        due(what, thrown(want), outcome(call));
     }
 
     void dueNoThrow(String what, Act act) {
-        due(what, "nothing", outcome(() -> {
-            act.run();
-            return "nothing";
-        }));
+        due(what, "nothing", outcome(answering(act)));
     }
 
     void dueActThrow(String what, Class<? extends Exception> want, Act act) {
-        dueThrow(what, want, () -> {
+        dueThrow(what, want, answering(act));
+    }
+
+    static String thrown(Class<? extends Exception> kind) {
+        return "throws." + kind.getSimpleName();
+    }
+
+    static Call answering(Act act) {
+        return () -> {
             act.run();
             return "nothing";
-        });
+        };
     }
 
     static Object outcome(Call call) {
@@ -65,9 +82,21 @@ final class Checks {
     /** A new object with a window of kind ROWS that has all of the values. */
     static WindowMeters withValues(int... values) {
         WindowMeters x = new WindowMeters();
-        x.window(1, 1000000);
+        x.window(1, END);
         for (int value : values) {
             x.tuple(0, 0, value);
+        }
+        return x;
+    }
+
+    /** A new object with so many windows, each of which has all tuples, and so many tuples of value 1 at time 0. */
+    static WindowMeters of(int windows, int tuples) {
+        WindowMeters x = new WindowMeters();
+        for (int w = 0; w < windows; w++) {
+            x.window(1, END);
+        }
+        for (int i = 0; i < tuples; i++) {
+            x.tuple(0, i % 8, 1);
         }
         return x;
     }
