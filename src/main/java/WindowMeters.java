@@ -1,4 +1,3 @@
-import java.util.Arrays;
 import java.util.NoSuchElementException;
 
 /** Windows that go with a row of tuples, and meters of the values in them. */
@@ -27,8 +26,7 @@ public final class WindowMeters {
     private final int[] times = new int[MAX_TUPLES];
     private final int[] keys = new int[MAX_TUPLES];
     private final int[] values = new int[MAX_TUPLES];
-    // The tuples' numbers in the order of their values: always each of
-    // 0 .. tupleCount - 1 once, so that each is an index of the rows above.
+    // The tuples' numbers in the order of their values.
     private final int[] bySize = new int[MAX_TUPLES];
     private int tupleCount;
 
@@ -38,10 +36,9 @@ public final class WindowMeters {
 
     private int now;
 
-    // These two hold nothing from one call to the next; they are kept so that
-    // no call has to make a row.
+    // It holds nothing from one call to the next; it is kept so that no call
+    // has to make a row.
     private final boolean[] inside = new boolean[MAX_TUPLES];
-    private final int[] seenOfKey = new int[KEY_COUNT];
 
     /** No tuples, no windows; now is 0. */
     public WindowMeters() {
@@ -182,10 +179,14 @@ public final class WindowMeters {
 
     // Sorting as the tuples come leaves each later question one walk along the row.
     private void placeBySize(int i) {
-        int place = i;
-        while (place > 0 && values[bySize[place - 1]] > values[i]) {
-            bySize[place] = bySize[place - 1];
-            place--;
+        int place = 0;
+        for (int other = 0; other < i; other++) {
+            if (values[other] <= values[i]) {
+                place++;
+            }
+        }
+        for (int to = i; to > place; to--) {
+            bySize[to] = bySize[to - 1];
         }
         bySize[place] = i;
     }
@@ -227,11 +228,18 @@ public final class WindowMeters {
     }
 
     private void markKeys(int n) {
-        Arrays.fill(seenOfKey, 0);
+        for (int key = 0; key < KEY_COUNT; key++) {
+            markLastOfKey(key, n);
+        }
+    }
+
+    private void markLastOfKey(int key, int n) {
+        int later = 0;
         for (int i = tupleCount - 1; i >= 0; i--) {
-            int key = keys[i];
-            inside[i] = seenOfKey[key] < n;
-            seenOfKey[key]++;
+            if (keys[i] == key) {
+                inside[i] = later < n;
+                later++;
+            }
         }
     }
 
@@ -260,6 +268,12 @@ public final class WindowMeters {
         }
     }
 
+    // The row bySize is read through this test, so that what it holds is
+    // looked at before it is used as an index.
+    private boolean isInside(int i) {
+        return i >= 0 && i < tupleCount && inside[i];
+    }
+
     private int countInside() {
         int count = 0;
         for (int i = 0; i < tupleCount; i++) {
@@ -285,7 +299,7 @@ public final class WindowMeters {
         int last = NONE;
         for (int place = 0; place < tupleCount; place++) {
             int i = bySize[place];
-            if (inside[i]) {
+            if (isInside(i)) {
                 if (last == NONE || values[i] != values[last]) {
                     count++;
                 }
@@ -318,7 +332,7 @@ public final class WindowMeters {
         int often = 0;
         for (int place = 0; place < tupleCount; place++) {
             int i = bySize[place];
-            if (inside[i]) {
+            if (isInside(i)) {
                 often = last != NONE && values[i] == values[last] ? often + 1 : 1;
                 last = i;
                 // A greater value that is there as often must not take the place.
@@ -335,7 +349,7 @@ public final class WindowMeters {
         int smaller = 0;
         for (int place = 0; place < tupleCount; place++) {
             int i = bySize[place];
-            if (inside[i]) {
+            if (isInside(i)) {
                 if (smaller == k) {
                     return i;
                 }

@@ -8,6 +8,7 @@ public final class Promise06MeterTest {
         ofNoValues(c);
         ofSomeValues(c);
         ofThoseInsideAlone(c);
+        likeOnesOutsideDoNotCount(c);
         sumUpToItsEnds(c);
         sumWraps(c);
         sumOf300Wraps(c);
@@ -49,6 +50,22 @@ public final class Promise06MeterTest {
             x.tuple(1, 0, value);
         }
         meters(c, "the last three", x, 3, 16, 2, 2);
+    }
+
+    private static void likeOnesOutsideDoNotCount(Checks c) {
+        WindowMeters x = new WindowMeters();
+        x.window(1, 3);
+        for (int value : new int[] {5, 6, 5, 5, 6, 5}) {
+            x.tuple(1, 0, value);
+        }
+        meters(c, "like ones ahead of the last three", x, 3, 16, 2, 2);
+        WindowMeters y = new WindowMeters();
+        y.window(2, 1);
+        y.tuple(1, 0, 5);
+        y.tuple(1, 1, 5);
+        y.tuple(1, 0, 5);
+        y.tuple(1, 0, 4);
+        meters(c, "like ones ahead and among the last of each key", y, 2, 9, 2, 1);
     }
 
     private static void sum(Checks c, int want, int... values) {

@@ -47,6 +47,13 @@ public final class Promise07KthTest {
             x.tuple(i, 0, 10 - i);
         }
         row(c, x, 8, 9, 10);
+        WindowMeters y = new WindowMeters();
+        y.window(2, 1);
+        y.tuple(1, 0, 5);
+        y.tuple(1, 1, 5);
+        y.tuple(1, 0, 5);
+        y.tuple(1, 0, 4);
+        row(c, y, 4, 5);
     }
 
     private static void of300(Checks c) {

@@ -36,6 +36,13 @@ public final class Promise08FrequentTest {
             x.tuple(2, 1, value);
         }
         c.due("of the last three", 8, () -> x.frequent(0));
+        WindowMeters y = new WindowMeters();
+        y.window(2, 1);
+        y.tuple(1, 0, 5);
+        y.tuple(1, 1, 5);
+        y.tuple(1, 0, 5);
+        y.tuple(1, 0, 4);
+        c.due("like ones ahead and among the last of each key", 4, () -> y.frequent(0));
     }
 
     private static void of300(Checks c) {
